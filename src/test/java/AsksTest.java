@@ -286,6 +286,58 @@ public final class AsksTest {
         x.verdict();
         Due.due("status of verdict", x.status(), 0);
         statusKept(ofAllKinds());
+        statusOfWell();
+        statusOfOver();
+    }
+
+    /** Calls that end well, of those that status() tells of; text is fed ahead. */
+    private static long call(SlackProofs x, int which) {
+        switch (which) {
+            case 0: return x.row(1, 0, 8);
+            case 1: return x.set(0, 1, 3);
+            case 2: return x.copy(0, 0, 0, 0, 8);
+            case 3: return x.drop(7);
+            case 4: return x.as(0, 1);
+            case 5: return x.plus(0, 0);
+            case 6: return x.times(0, 1);
+            case 7: return x.claim();
+            case 8: return x.witness(0);
+            case 9: return x.solution(8);
+            case 10: return x.remove(0);
+            case 11: return x.sum(2);
+            case 12: return x.slack(2, 0, 0);
+            case 13: return x.forced(0, 0, 1);
+            case 14: return x.solutions(1);
+            case 15: return x.holds(2);
+            case 16: return x.follows(0);
+            default: return x.verdict();
+        }
+    }
+
+    private static void statusOfWell() {
+        for (int which = 0; which < 18; which++) {
+            for (int text = 0; text < 2; text++) {
+                SlackProofs x = ofAllKinds();
+                x.row(0, 0, 8);
+                x.row(7, 0, 8);
+                Due.feed(x, text == 0 ? "g0;" : "p7,1;g1;");
+                x.as(0, 5);
+                Due.due("KIND", x.status(), 3);
+                boolean isFound = call(x, which) < SlackProofs.FULL;
+                Due.due("call " + which + " is well", isFound ? 1 : 0, 0);
+                Due.due("status after call " + which, x.status(), 0);
+            }
+        }
+    }
+
+    private static void statusOfOver() {
+        for (int which = 7; which < 18; which++) {
+            SlackProofs x = beyond();
+            x.row(0, 0, 8);
+            Due.feed(x, "g0;");
+            Due.due("call " + which + " of what is beyond", call(x, which), -1000016);
+            Due.due("status after it", x.status(), 6);
+        }
     }
 
     private static void statusKept(SlackProofs x) {

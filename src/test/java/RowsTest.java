@@ -55,6 +55,7 @@ public final class RowsTest {
         SlackProofs x = new SlackProofs();
         Due.due("set BAD", x.set(8, 0, 0), SlackProofs.BAD);
         Due.due("set NULL", x.set(0, -1, 0), -1000011);
+        Due.due("status NULL", x.status(), 1);
         x.row(0, 0, 2);
         x.row(1, 1, 2);
         x.row(2, 2, 2);
@@ -80,8 +81,11 @@ public final class RowsTest {
         Due.due("copy BAD b", x.copy(0, 0, 8, 0, 1), SlackProofs.BAD);
         Due.due("copy NULL", x.copy(3, 0, 2, 0, -1), -1000011);
         Due.due("copy NULL b", x.copy(2, 0, 3, 0, -1), -1000011);
+        Due.due("status NULL", x.status(), 1);
         Due.due("STORE ahead of PLACE", x.copy(0, -1, 2, 9, 9), -1000015);
+        Due.due("status STORE", x.status(), 5);
         Due.due("i -1", x.copy(0, -1, 1, 0, 1), -1000012);
+        Due.due("status PLACE", x.status(), 2);
         Due.due("j -1", x.copy(0, 0, 1, -1, 1), -1000012);
         Due.due("n -1", x.copy(0, 0, 1, 0, -1), -1000012);
         Due.due("beyond a", x.copy(1, 2, 0, 0, 3), -1000012);

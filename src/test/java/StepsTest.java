@@ -6,6 +6,7 @@ public final class StepsTest {
     public static void main(String[] args) {
         plus();
         plusBeyond();
+        theGreatestLong();
         times();
         split();
         saturate();
@@ -71,6 +72,32 @@ public final class StepsTest {
         Due.due("degrees together", x.plus(8, 8), -1000016);
         Due.due("greater less lesser", x.plus(8, 5), 9);
         Due.dueTold(x, 9, ">= 0");
+    }
+
+    /** 49 times these factors is the greatest long. */
+    static int timesToTheGreatest(SlackProofs x, int a) {
+        return x.times(x.times(x.times(a, 73 * 127 * 337), 92737), 649657);
+    }
+
+    private static void theGreatestLong() {
+        SlackProofs x = Due.read("n0,49;g49;p1,24;g24;p1,25;g25;p2,24;n3,25;g1;");
+        int whole = timesToTheGreatest(x, 0);
+        Due.dueTold(x, whole, Long.MAX_VALUE + "~x0 >= " + Long.MAX_VALUE);
+        Due.due("its sum", x.sum(whole), Long.MAX_VALUE);
+        Due.due("its slack", x.slack(whole, 1, 1), -Long.MAX_VALUE);
+        Due.due("once", x.times(whole, 1), whole + 1);
+        Due.due("twice", x.times(whole, 2), -1000016);
+        int less = timesToTheGreatest(x, 1);
+        int more = timesToTheGreatest(x, 2);
+        int both = x.plus(less, more);
+        Due.dueTold(x, both, Long.MAX_VALUE + "x1 >= " + Long.MAX_VALUE);
+        Due.due("one more of a degree", x.plus(both, 0), -1000016);
+        Due.due("one more of a coefficient", x.plus(both, x.axiom(1, 1)), -1000016);
+        int two = timesToTheGreatest(x, 3);
+        Due.due("a sum of two", x.sum(two), Long.MAX_VALUE);
+        Due.due("what is forced", x.forced(0, 0, 2), 2);
+        Due.due("how often it holds", x.holds(two), 192);
+        Due.due("it does not follow but by itself", x.follows(two), 1);
     }
 
     private static void times() {

@@ -80,7 +80,7 @@ public final class WitnessTest {
     private static void witnessWithPrices() {
         SlackProofs x = Due.read("p0,1;p1,1;g1;m0,3;m1,2;");
         put(x, 0, 1, 4, 5, 6, 7, 8, 9);
-        Due.due("dearer if both are 0", Due.witness(x, "n0,1;g1;", 0), 2 - 1);
+        Due.due("cheaper, as the contrary says x0", Due.witness(x, "n0,1;g1;", 0), 1);
         SlackProofs y = Due.read("p0,1;p1,1;g1;m0,2;m1,3;");
         put(y, 0, 1, 4, 5, 6, 7, 8, 9);
         Due.due("dearer", Due.witness(y, "n0,1;g1;", 0), SlackProofs.NONE);
