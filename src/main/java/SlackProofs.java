@@ -1140,22 +1140,21 @@ public final class SlackProofs {
         boolean comesByWitness(Clause claimed, int[] witness) {
             claimContrary.becomeContrary(claimed);
             for (int a = 0; a < book.used; a++) {
-                if (book.isLive(a) && !followsPut(book.clauses[a], witness)) {
-                    return false;
+                if (book.isLive(a)) {
+                    put.becomePut(book.clauses[a], witness);
+                    if (!followsFrom(put, book.live, claimContrary)) {
+                        return false;
+                    }
                 }
             }
-            if (!followsPut(claimed, witness)) {
+            put.becomePut(claimed, witness);
+            if (!followsFrom(put, book.live, claimContrary)) {
                 return false;
             }
             if (book.allPrices() == 0) {
                 return true;
             }
             put.becomePriceKept(book.prices, witness);
-            return followsFrom(put, book.live, claimContrary);
-        }
-
-        boolean followsPut(Clause clause, int[] witness) {
-            put.becomePut(clause, witness);
             return followsFrom(put, book.live, claimContrary);
         }
 
