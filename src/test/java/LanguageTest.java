@@ -101,6 +101,8 @@ public final class LanguageTest {
             }
             Due.dueTrue("line " + (i + 1) + " imports what is free",
                     !line.startsWith("import") || line.matches("import java\\.util\\.(Arrays|ArrayList|List|Iterator);"));
+            Due.dueTrue("line " + (i + 1) + " makes nothing within a call", !line.matches(".*\\bnew\\b.*")
+                    || from < 0 || isConstructor(lines.get(from)));
             Matcher matcher = begins.matcher(line);
             if (from < 0 && matcher.find()) {
                 from = i;
@@ -110,5 +112,9 @@ public final class LanguageTest {
                 from = -1;
             }
         }
+    }
+
+    private static boolean isConstructor(String line) {
+        return line.matches(" +(public )?[A-Z]\\w*\\(.*\\) \\{");
     }
 }

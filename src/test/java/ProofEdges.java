@@ -27,6 +27,7 @@ final class ProofEdges {
         undoEach();
         undoTwelve();
         undoNothing();
+        theLastOf512Calls();
     }
 
     private static void claimTapeStays() {
@@ -627,5 +628,14 @@ final class ProofEdges {
         x.as(0, 5);
         x.undo();
         Edge.edge(19, "STATE leaves the status", x.status(), 3);
+    }
+
+    /** Four calls to read, then in pairs: an object answers as due to its 512th call. */
+    private static void theLastOf512Calls() {
+        SlackProofs x = Due.read("g0;");
+        for (int calls = 4; calls < 512; calls += 2) {
+            Edge.edge(14, "call " + (calls + 1), x.axiom(calls % 8, 1), 1);
+            Edge.edge(19, "call " + (calls + 2), x.undo(), 0);
+        }
     }
 }

@@ -8,6 +8,7 @@ final class StepEdges {
     static void run() {
         plusCancels();
         plusSinks();
+        plusSinksFar();
         plusAtTheGreatest();
         plusOverOfDegrees();
         plusOverChangesNothing();
@@ -57,6 +58,19 @@ final class StepEdges {
         Edge.edgeTold(9, x, 8, ">= 0");
         Edge.edge(9, "nothing more", x.plus(0, 4), 9);
         Edge.edgeTold(9, x, 9, "5x0 5x1 >= 4");
+    }
+
+    /** All eight cancel: the degree is lessened by far more than a long holds, and becomes 0. */
+    private static void plusSinksFar() {
+        SlackProofs x = Due.read("p0,49;p1,49;n2,49;p3,49;p4,49;p5,49;n6,49;p7,49;g49;"
+                + "n0,49;n1,49;p2,49;n3,49;n4,49;n5,49;p6,49;n7,49;g0;");
+        int one = Edge.timesToTheGreatest(x, 0);
+        int other = Edge.timesToTheGreatest(x, 1);
+        Edge.edge(9, "the greatest degree sinks", x.plus(one, other), other + 1);
+        Edge.edgeTold(9, x, other + 1, ">= 0");
+        Edge.edge(9, "status 0", x.status(), 0);
+        Edge.edge(9, "the other way about", x.plus(other, one), other + 2);
+        Edge.edgeTold(9, x, other + 2, ">= 0");
     }
 
     /** 24 and 25 parts of 49 are the greatest long together; one more is beyond. */
