@@ -6,6 +6,7 @@ final class ProofEdges {
         claimTapeStays();
         claimOrder();
         claimFollows();
+        claimByNoWitness();
         claimContrary();
         claimSums();
         witnessTapeStays();
@@ -90,6 +91,17 @@ final class ProofEdges {
         Edge.edge(15, "two of them are forced", Due.claim(y, "p0,1;p1,1;g1;"), 1);
         SlackProofs z = Due.read("g1;");
         Edge.edge(15, "all follows from what cannot be", Due.claim(z, "g99;"), 1);
+    }
+
+    /** ~x0 >= 1 would come by a witness that puts 0 for x0; a claim looks at no row. */
+    private static void claimByNoWitness() {
+        SlackProofs x = Due.read("g0;");
+        Edge.edge(15, "rows are missing", Due.claim(x, "n0,1;g1;"), Edge.NONE);
+        for (int row = 0; row < 8; row++) {
+            x.row(row, 0, 8);
+        }
+        Edge.edge(15, "rows that put 0", Due.claim(x, "n0,1;g1;"), Edge.NONE);
+        Edge.edge(16, "by one of them it comes", Due.witness(x, "n0,1;g1;", 7), 1);
     }
 
     /** The contrary of 3x0 2x1 >= d: 3~x0 2~x1 >= 6 less d; it forces x0 as 3 is above the slack. */
