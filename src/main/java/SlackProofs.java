@@ -7,6 +7,9 @@ public final class SlackProofs {
     private static final int FINDINGS = -1000010, FAULTS = -1000100;
     private static final int NULL = 1, PLACE = 2, KIND = 3, SIZE = 4, STORE = 5, OVER = 6;
 
+    /** The greatest long, written out as LANGUAGE.md lists functions of Long but no constants. */
+    private static final long GREATEST = 9223372036854775807L;
+
     private static final int VARIABLES = 8, ALL_VALUES = 256, EVERY_VARIABLE = 255;
     private static final int MOST_CLAUSES = 30, MOST_GIVEN = 8, MOST_ACTS = 12, IMAGES = 2;
     private static final int MOST_ROWS = 8, MOST_ITEMS = 40, LANES = 3, MOST_BYTES = 200;
@@ -602,7 +605,7 @@ public final class SlackProofs {
 
         /** Whether the numbers stay within a long. */
         boolean becomePlus(Clause a, Clause b) {
-            if (a.degree > Long.MAX_VALUE - b.degree) {
+            if (a.degree > GREATEST - b.degree) {
                 return false;
             }
             System.arraycopy(a.coefficients, 0, coefficients, 0, VARIABLES);
@@ -623,7 +626,7 @@ public final class SlackProofs {
             long old = coefficients[variable];
             if (old != 0 && weight != 0 && (old > 0) != (weight > 0)) {
                 degree = Math.max(0, degree - Math.min(Math.abs(old), Math.abs(weight)));
-            } else if (Math.abs(old) > Long.MAX_VALUE - Math.abs(weight)) {
+            } else if (Math.abs(old) > GREATEST - Math.abs(weight)) {
                 return false;
             }
             coefficients[variable] = old + weight;
@@ -635,7 +638,7 @@ public final class SlackProofs {
             if (k < 1) {
                 return false;
             }
-            long most = Long.MAX_VALUE / k;
+            long most = GREATEST / k;
             if (a.degree > most) {
                 return false;
             }
@@ -743,7 +746,7 @@ public final class SlackProofs {
             long sum = 0;
             for (int v = 0; v < VARIABLES; v++) {
                 long weight = Math.abs(coefficients[v]);
-                if (sum > Long.MAX_VALUE - weight) {
+                if (sum > GREATEST - weight) {
                     return -1;
                 }
                 sum += weight;

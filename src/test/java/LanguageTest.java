@@ -4,9 +4,12 @@ import java.lang.reflect.Method;
 import java.lang.reflect.Modifier;
 import java.nio.file.Files;
 import java.nio.file.Path;
+import java.util.ArrayList;
 import java.util.Arrays;
 import java.util.List;
+import java.util.Map;
 import java.util.Set;
+import java.util.TreeMap;
 import java.util.TreeSet;
 import java.util.regex.Matcher;
 import java.util.regex.Pattern;
@@ -29,6 +32,16 @@ public final class LanguageTest {
         "\\bcurrentTimeMillis\\b", "\\bnanoTime\\b", "\\brandom\\b", "\\bdouble\\b", "\\bfloat\\b",
         "static\\s*\\{", "\\bvolatile\\b", "\\btransient\\b", "\\.equals\\(", "\\bhashCode\\b", "\\btoString\\b"};
 
+    /** What the class may take from the library (rule 4); any other word with a great letter is its own. */
+    private static final Set<String> LIBRARY = Set.of("Arrays.fill", "Arrays.copyOf", "Arrays.copyOfRange",
+            "System.arraycopy", "Math.abs", "Math.max", "Math.min", "Math.floorDiv", "Math.floorMod",
+            "Integer.bitCount", "Integer.compare", "Long.bitCount", "Long.compare");
+    private static final Pattern TAKEN = Pattern.compile(
+            "(?<![.\\w])(Arrays|System|Math|StrictMath|Integer|Long|Short|Byte|Character|Boolean|String|Objects)\\.(\\w+)");
+
+    /** How a method begins, within the class and within the classes inside it. */
+    private static final Pattern BEGINS = Pattern.compile("^( {4}| {8})[A-Za-z].*\\) \\{$");
+
     public static void main(String[] args) throws IOException {
         face();
         fields(SlackProofs.class);
@@ -40,7 +53,10 @@ public final class LanguageTest {
         }
         methods(SlackProofs.class);
         Due.dueTrue("at most 12 classes", SlackProofs.class.getDeclaredClasses().length < 12);
-        text(Files.readAllLines(Path.of("src/main/java/SlackProofs.java")));
+        List<String> lines = Files.readAllLines(Path.of("src/main/java/SlackProofs.java"));
+        text(lines);
+        library(lines);
+        new Calls(lines).dueShallow();
         Due.end("LanguageTest");
     }
 
@@ -91,11 +107,10 @@ public final class LanguageTest {
     }
 
     private static void text(List<String> lines) {
-        Pattern begins = Pattern.compile("^( {4}| {8})[A-Za-z].*\\) \\{$");
         int from = -1;
         String indent = "";
         for (int i = 0; i < lines.size(); i++) {
-            String line = lines.get(i).replaceAll("//.*|/\\*\\*.*|^ *\\*.*", "");
+            String line = withoutComment(lines.get(i));
             for (String ruledOut : RULED_OUT) {
                 Due.dueTrue("line " + (i + 1) + " has no " + ruledOut, !Pattern.compile(ruledOut).matcher(line).find());
             }
@@ -103,7 +118,7 @@ public final class LanguageTest {
                     !line.startsWith("import") || line.matches("import java\\.util\\.(Arrays|ArrayList|List|Iterator);"));
             Due.dueTrue("line " + (i + 1) + " makes nothing within a call", !line.matches(".*\\bnew\\b.*")
                     || from < 0 || isConstructor(lines.get(from)));
-            Matcher matcher = begins.matcher(line);
+            Matcher matcher = BEGINS.matcher(line);
             if (from < 0 && matcher.find()) {
                 from = i;
                 indent = matcher.group(1);
@@ -111,6 +126,85 @@ public final class LanguageTest {
                 Due.dueTrue("the method at line " + (from + 1) + " is short", i - from <= 60);
                 from = -1;
             }
+        }
+    }
+
+    private static void library(List<String> lines) {
+        for (String line : lines) {
+            Matcher taken = TAKEN.matcher(line.startsWith("import") ? "" : withoutComment(line));
+            while (taken.find()) {
+                Due.dueTrue(taken.group() + " is listed", LIBRARY.contains(taken.group()));
+            }
+        }
+    }
+
+    private static String withoutComment(String line) {
+        return line.replaceAll("//.*|/\\*\\*.*|^ *\\*.*", "");
+    }
+
+    /**
+     * Which method calls which, by names alone, so that a path may be told too long but none too
+     * short. Methods that reach one another are recursion, and count as one level (rule 11).
+     */
+    private static final class Calls {
+        final Map<String, Set<String>> called = new TreeMap<>();
+
+        Calls(List<String> lines) {
+            Pattern name = Pattern.compile("(\\w+)\\(");
+            String method = null, indent = "";
+            for (String whole : lines) {
+                String line = withoutComment(whole);
+                Matcher begins = BEGINS.matcher(line), names = name.matcher(line);
+                if (method == null && begins.matches() && names.find()) {
+                    method = names.group(1);
+                    indent = begins.group(1);
+                    called.computeIfAbsent(method, m -> new TreeSet<>());
+                } else if (line.equals(indent + "}")) {
+                    method = null;
+                }
+                while (method != null && names.find()) {
+                    called.get(method).add(names.group(1));
+                }
+            }
+            for (Set<String> names : called.values()) {
+                names.retainAll(called.keySet());
+            }
+        }
+
+        void dueShallow() {
+            Due.dueTrue("methods are found", called.size() > FACE.length);
+            Due.dueTrue("calls are found", depth("witness") > 5);
+            for (String method : called.keySet()) {
+                Due.dueTrue(method + " goes " + depth(method) + " deep", depth(method) <= 8);
+            }
+        }
+
+        int depth(String method) {
+            Set<String> level = new TreeSet<>(List.of(method));
+            for (String other : reached(method)) {
+                if (reached(other).contains(method)) {
+                    level.add(other);
+                }
+            }
+            int deepest = 0;
+            for (String one : level) {
+                for (String next : called.get(one)) {
+                    deepest = level.contains(next) ? deepest : Math.max(deepest, depth(next));
+                }
+            }
+            return 1 + deepest;
+        }
+
+        Set<String> reached(String method) {
+            Set<String> seen = new TreeSet<>();
+            List<String> open = new ArrayList<>(called.get(method));
+            while (!open.isEmpty()) {
+                String next = open.remove(open.size() - 1);
+                if (seen.add(next)) {
+                    open.addAll(called.get(next));
+                }
+            }
+            return seen;
         }
     }
 
